@@ -89,6 +89,10 @@ public final class RandomRunsTest {
 
     private void shows() {
         int calm = 1 + lot.nextInt(200);
+        if (calm < 60) {
+            // A line so scarce that few or no PIECES are seen.
+            same("line", real.line(0, 59, calm % 3), plain.line(0, 59, calm % 3));
+        }
         for (int i = 0; i < 40; i++) {
             for (int n = lot.nextInt(5); n >= 0; n--) changeShow(calm);
             for (int what = -1; what < 5; what++) same("show " + what, real.show(what), plain.show(what));
