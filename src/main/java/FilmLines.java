@@ -909,7 +909,7 @@ public final class FilmLines {
             for (int second = 0; second < Film.SECONDS && seenCount < film.count; second++) {
                 load(film, rule, second);
                 if (whole >= needed) {
-                    watch(second);
+                    watch(film, second);
                 }
             }
         }
@@ -937,13 +937,16 @@ public final class FilmLines {
             missing = film.bitsOf(piece, size);
         }
 
-        private void watch(int second) {
-            if (whole > seenCount) {
-                sizeSum += sizes[seenCount];
-                seenCount++;
-                lastSecond = second;
-            } else {
+        private void watch(Film film, int second) {
+            if (whole <= seenCount) {
                 stills++;
+                return;
+            }
+            sizeSum += sizes[seenCount];
+            seenCount++;
+            // What is told is the second of the film's last PIECE, not of the last one that came to be seen.
+            if (seenCount == film.count) {
+                lastSecond = second;
             }
         }
     }
@@ -1050,12 +1053,15 @@ public final class FilmLines {
             for (int piece = 0; piece < whole && at < Film.SECONDS; piece++) {
                 at = Math.max(at, wholeAt[piece]);
                 rowSeen++;
-                rowLast = at;
                 at++;
             }
             rowSum = rowSeen > 0 ? sums[rowSeen - 1] : 0;
-            int end = rowSeen == film.count ? rowLast : Film.SECONDS - 1;
-            rowStills = end - first + 1 - rowSeen;
+            int end = Film.SECONDS;
+            if (rowSeen == film.count) {
+                end = at;
+                rowLast = at - 1;
+            }
+            rowStills = end - first - rowSeen;
         }
 
         // Of equals the last one that is tried is the first by its SIZES.

@@ -243,7 +243,7 @@ final class PlainModel {
         return parts[parts.length - 1].charAt(0) - '0';
     }
 
-    /** The SHOW bit by bit: seen, STILL seconds, sum, last second, then 8 SIZES. row: the SIZES, or null by THE RULE. */
+    /** The SHOW bit by bit: seen, STILL seconds, sum, second of the film's last PIECE, then 8 SIZES. row: the SIZES, or null by THE RULE. */
     int[] play(int[] row) {
         int[] told = {0, 0, 0, NONE, NONE, NONE, NONE, NONE, NONE, NONE, NONE, NONE};
         int whole = 0, got = 0;
@@ -266,7 +266,7 @@ final class PlainModel {
                 if (whole > told[0]) {
                     told[2] += told[4 + told[0]];
                     told[0]++;
-                    told[3] = t;
+                    if (told[0] == pieces) told[3] = t;
                 } else {
                     told[1]++;
                 }

@@ -15,12 +15,14 @@ public final class ShowsTest {
         showFacts();
         showBegins();
         showStops();
+        showLastSecond();
         showOutside();
         best();
         bestWaits();
         bestFirstOfEquals();
         bestUnbegun();
         bestUnseen();
+        bestLastSecond();
         CHECK.end("ShowsTest");
     }
 
@@ -94,13 +96,13 @@ public final class ShowsTest {
         CHECK.due("line", x.line(0, 59, 0), 1);
         CHECK.due("nothing comes", x.show(10), FilmLines.NONE);
         CHECK.due("line to its most", x.line(59, 59, 1000), 1);
-        CHECK.dueAll("all comes in the last second", show(x), 1, 0, 0, 59, 0, 0, 0, 0, 0, 0, 0, 0);
+        CHECK.dueAll("all comes in the last second", show(x), 1, 0, 0, FilmLines.NONE, 0, 0, 0, 0, 0, 0, 0, 0);
         CHECK.due("line from -1", x.line(-1, 5, 1), FilmLines.OUTSIDE);
         CHECK.due("line to 60", x.line(0, 60, 1), FilmLines.OUTSIDE);
         CHECK.due("line from above to", x.line(6, 5, 1), FilmLines.OUTSIDE);
         CHECK.due("line of -1", x.line(0, 5, -1), FilmLines.OUTSIDE);
         CHECK.due("line of 1001", x.line(0, 5, 1001), FilmLines.OUTSIDE);
-        CHECK.due("refused ones changed nothing", x.show(3), 59);
+        CHECK.dueAll("refused ones changed nothing", show(x), 1, 0, 0, FilmLines.NONE, 0, 0, 0, 0, 0, 0, 0, 0);
     }
 
     private static void sayAndWipe() {
@@ -214,12 +216,33 @@ public final class ShowsTest {
         x.line(0, 59, 10);
         CHECK.dueAll("a still second ahead of each", show(x), 8, 5, 0, 15, 0, 0, 0, 0, 0, 0, 0, 0);
         x.line(4, 59, 0);
-        CHECK.dueAll("two come, then no more", show(x), 2, 55, 0, 4, 0, 0, FilmLines.NONE, FilmLines.NONE);
+        CHECK.dueAll("two come, then no more", show(x), 2, 55, 0, FilmLines.NONE, 0, 0, FilmLines.NONE, FilmLines.NONE);
         x.line(4, 4, 1);
         CHECK.due("a third is begun", x.show(12), 0);
         CHECK.due("and never whole", x.show(0), 2);
         x.line(2, 59, 0);
         CHECK.dueAll("one comes: not begun", show(x), 0, 0, 0, FilmLines.NONE, 0, FilmLines.NONE);
+    }
+
+    /** Where the film's last PIECE is not seen, no second is told, though others are seen. */
+    private static void showLastSecond() {
+        FilmLines x = new FilmLines();
+        x.line(0, 59, 1);
+        CHECK.dueAll("three of eight are seen", show(x), 3, 18, 0, FilmLines.NONE, 0, 0, 0, FilmLines.NONE);
+        x.pieces(3);
+        CHECK.dueAll("the third is the last, seen in the last second", show(x), 3, 18, 0, 59, 0, 0, 0, FilmLines.NONE);
+        x.pieces(4);
+        CHECK.due("a fourth is not seen", x.show(3), FilmLines.NONE);
+        x.pieces(2);
+        CHECK.due("two are seen from second 39 on", x.show(3), 40);
+        x.pieces(8);
+        x.line(0, 59, 0);
+        x.line(53, 53, 1000);
+        CHECK.dueAll("all are there, and the end comes ahead", show(x), 7, 0, 0, FilmLines.NONE, 0, 0, 0, 0, 0, 0, 0, 0);
+        x.line(52, 52, 1000);
+        CHECK.dueAll("the eighth in second 59", show(x), 8, 0, 0, 59, 0, 0, 0, 0, 0, 0, 0, 0);
+        x.pieces(1);
+        CHECK.due("one piece, which is the last", x.show(3), 52);
     }
 
     private static void showOutside() {
@@ -259,7 +282,7 @@ public final class ShowsTest {
         x.line(0, 1, 0);
         x.line(58, 58, 20);
         x.line(59, 59, 19);
-        CHECK.dueAll("the end comes ahead of the second one", best(x), 1, 1, 0, 58, 0, 0, FilmLines.NONE);
+        CHECK.dueAll("the end comes ahead of the second one", best(x), 1, 1, 0, FilmLines.NONE, 0, 0, FilmLines.NONE);
         x.line(58, 59, 20);
         CHECK.dueAll("whole in the last second", best(x), 2, 0, 0, 59, 0, 0);
     }
@@ -282,11 +305,29 @@ public final class ShowsTest {
         x.line(0, 59, 0);
         CHECK.dueAll("nothing comes", best(x), 0, 0, 0, FilmLines.NONE, FilmLines.NONE, FilmLines.NONE);
         x.line(0, 0, 40);
-        CHECK.dueAll("no bit for the third", best(x), 2, 58, 0, 1, 0, 0, FilmLines.NONE);
+        CHECK.dueAll("no bit for the third", best(x), 2, 58, 0, FilmLines.NONE, 0, 0, FilmLines.NONE);
         x.line(0, 0, 41);
-        CHECK.dueAll("a bit for the third", best(x), 2, 58, 0, 1, 0, 0, 0, FilmLines.NONE);
+        CHECK.dueAll("a bit for the third", best(x), 2, 58, 0, FilmLines.NONE, 0, 0, 0, FilmLines.NONE);
         x.pieces(2);
         CHECK.dueAll("no third at all", best(x), 2, 0, 0, 1, 0, 0, FilmLines.NONE);
+    }
+
+    private static void bestLastSecond() {
+        FilmLines x = new FilmLines();
+        x.line(1, 59, 0);
+        CHECK.dueAll("two of eight are seen", best(x), 2, 58, 0, FilmLines.NONE, 0, 0, FilmLines.NONE);
+        x.pieces(2);
+        CHECK.dueAll("the second is the last", best(x), 2, 0, 0, 1, 0, 0, FilmLines.NONE);
+        x.pieces(3);
+        CHECK.due("a third is not seen", x.best(3), FilmLines.NONE);
+        x.pieces(8);
+        x.line(0, 59, 0);
+        x.line(53, 53, 1000);
+        CHECK.dueAll("all are there, and the end comes ahead", best(x), 7, 0, 14, FilmLines.NONE, 2, 2, 2, 2, 2, 2, 2, 0);
+        x.line(52, 52, 1000);
+        CHECK.dueAll("the eighth in second 59", best(x), 8, 0, 16, 59, 2, 2, 2, 2, 2, 2, 2, 2);
+        x.pieces(1);
+        CHECK.due("one piece, which is the last", x.best(3), 52);
     }
 
     private static void bestUnseen() {
@@ -301,6 +342,6 @@ public final class ShowsTest {
         x.line(0, 0, 100);
         CHECK.dueAll("none is seen: the first by sizes", best(x), 0, 0, 0, FilmLines.NONE, 0, 0, 0, 0, 0, 0, FilmLines.NONE);
         x.line(59, 59, 1000);
-        CHECK.dueAll("all are there only in the last second", best(x), 1, 0, 2, 59, 2, 0, 0, 0, 0, 0, 0, 0);
+        CHECK.dueAll("all are there only in the last second", best(x), 1, 0, 2, FilmLines.NONE, 2, 0, 0, 0, 0, 0, 0, 0);
     }
 }
