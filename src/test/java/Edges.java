@@ -55,6 +55,10 @@ final class Edges {
         check.due(now + calls + " changed " + unlike, unlike.size(), 0);
     }
 
+    void parts(String call, List<String> changed, String... wants) {
+        check.due(now + call + " changed " + changed + ", due are " + List.of(wants), changed.equals(List.of(wants)) ? 1 : 0, 1);
+    }
+
     void end(String test) {
         System.out.print(sentences + " sentences, ");
         check.end(test);

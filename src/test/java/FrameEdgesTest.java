@@ -20,6 +20,7 @@ public final class FrameEdgesTest {
         setUnknownOnes();
         setCounts();
         wayEdges();
+        wayOfEachBlock();
         wayBits();
         wayOwnBits();
         wayFewerBitsThanAny();
@@ -32,6 +33,7 @@ public final class FrameEdgesTest {
         openedMeanIsCut();
         openedFollowsChanges();
         ofEdges();
+        ofAskedFirst();
         ofUnlike();
         ofScenes();
         ofScenesAtMost();
@@ -163,6 +165,19 @@ public final class FrameEdgesTest {
         EDGES.full().still("way(0, 3)", 10).still("way(0, 0)", 9).still("way(2, 3)", 9);
     }
 
+    private static void wayOfEachBlock() {
+        EDGES.sentence(6, "BLOCKS 0 to 3 of a FRAME: 2 by 2 DOTS: left above, right above, left below, right below.");
+        int[] blockOf = {0, 0, 1, 1, 0, 0, 1, 1, 2, 2, 3, 3, 2, 2, 3, 3};
+        for (int dot = 0; dot < 16; dot++) {
+            int[] ways = {9, 9, 9, 9, 35, 0};
+            ways[blockOf[dot]] = 10;
+            EDGES.behind("frame() dot(0, " + dot + ", 15) set(0, 35)").cut(0, ways).due("opened(0, " + dot + ")", 15);
+            // 15 by 4, cut, for all DOTS of its BLOCK, and 0 for others.
+            Run mean = EDGES.behind("frame() dot(0, " + dot + ", 15) set(0, 34)").cut(0, 9, 9, 9, 9, 20, 3 * 9 + 144);
+            for (int other = 0; other < 16; other++) mean.due("opened(0, " + other + ")", blockOf[other] == blockOf[dot] ? 3 : 0);
+        }
+    }
+
     private static void wayBits() {
         EDGES.sentence(6, "(4: as it was: 1 bit; others: 6 bits; not in a KEY)");
         // BLOCK 0 of FRAME 1 has a column of 3 and one of 9: one DOT to the right, in any row.
@@ -287,6 +302,24 @@ public final class FrameEdgesTest {
         EDGES.fresh().grid(new Grid("of").known(0, -1).within(0, 4));
         EDGES.behind(TEN_FRAMES).grid(new Grid("of").known(0, 9).within(0, 4)).still("of(9, 0)", 4).still("of(9, 1)", 0)
             .still("of(9, 2)", 0).still("of(9, 3)", 0).still("of(9, 4)", 1);
+    }
+
+    /** Each answer by CUT is due as well where nothing else was asked ahead of it, and behind each change. */
+    private static void ofAskedFirst() {
+        EDGES.sentence(8, "Of a FRAME by CUT: 0 bits, 1 LOSS");
+        askedFirst("", 35, 0, 4, 0);
+        askedFirst("of(1, 0) set(0, 34)", 20, 226, 23, 0);
+        askedFirst("of(1, 1) dot(0, 3, 2)", 35, 4, 4, 0);
+        askedFirst("of(1, 0) dot(1, 3, 2)", 35, 0, 23, 0);
+        askedFirst("of(1, 1) key(1, true)", 35, 0, 35, 0);
+    }
+
+    private static void askedFirst(String change, int bits, int loss, int bitsOf1, int lossOf1) {
+        String story = "frame() frame() " + block(0, 0, 0, 15, 15, 0) + block(1, 0, 0, 15, 15, 0) + "set(0, 35) " + change;
+        EDGES.behind(story).due("of(0, 0)", bits);
+        EDGES.behind(story).due("of(0, 1)", loss);
+        EDGES.behind(story).due("of(1, 0)", bitsOf1);
+        EDGES.behind(story).due("of(1, 1)", lossOf1);
     }
 
     private static void ofUnlike() {

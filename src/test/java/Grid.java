@@ -16,6 +16,8 @@ final class Grid {
 
     private enum Kind { NUMBERED, OTHER, NOT_BELOW_THE_ONE_AHEAD, TRUTH }
 
+    private static final int MOST_FAR_MIXES = 3;
+
     private final String name;
     private final List<Kind> kinds = new ArrayList<>();
     private final List<int[]> edges = new ArrayList<>();
@@ -48,8 +50,19 @@ final class Grid {
         if (rows == null) {
             rows = new ArrayList<>();
             mix(new int[kinds.size()], 0);
+            if (kinds.size() > MOST_FAR_MIXES) farOneByOne();
         }
         return rows;
+    }
+
+    private void farOneByOne() {
+        for (int far : new int[] {Integer.MIN_VALUE, Integer.MAX_VALUE}) {
+            for (int at = 0; at < kinds.size(); at++) {
+                int[] numbers = new int[kinds.size()];
+                for (int i = 0; i < numbers.length; i++) numbers[i] = i == at ? far : edges.get(i)[0];
+                mix(numbers, numbers.length);
+            }
+        }
     }
 
     private Grid add(Kind kind, int least, int most) {
@@ -71,9 +84,9 @@ final class Grid {
         }
     }
 
-    // The farthest numbers are tried too where that does not make too many mixes.
+    // The farthest numbers are mixed with all others only where that does not make too many mixes.
     private int[] tries(int least, int most) {
-        if (kinds.size() > 3) return new int[] {least - 1, least, most, most + 1};
+        if (kinds.size() > MOST_FAR_MIXES) return new int[] {least - 1, least, most, most + 1};
         return new int[] {Integer.MIN_VALUE, least - 1, least, most, most + 1, Integer.MAX_VALUE};
     }
 

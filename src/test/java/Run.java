@@ -58,6 +58,14 @@ final class Run {
         return this;
     }
 
+    /** A call that is carried out: its answer, and that it changes these parts and nothing else. */
+    Run changes(String call, int want, String... parts) {
+        int[][] was = stateNow();
+        due(call, want);
+        edges.parts(call, WholeState.unlike(was, stateNow()), parts);
+        return this;
+    }
+
     /** Every mix of numbers at, within and beyond the edges of a call: each that is refused, and that it changes nothing. */
     Run grid(Grid grid) {
         List<String> refused = new ArrayList<>();

@@ -69,6 +69,7 @@ public final class SeeingEdgesTest {
         EDGES.fresh().rule("l>40:1;0").row("show", 8, 0, 0, 7, 0, 0, 0, 0, 0, 0, 0, 0);
         EDGES.fresh().rule("l<41:1;0").row("show", 8, 0, 8, 8, 1, 1, 1, 1, 1, 1, 1, 1);
         EDGES.fresh().rule("l<40:1;0").row("show", 8, 0, 1, 8, 1, 0, 0, 0, 0, 0, 0, 0);
+        EDGES.fresh().rule("l<0:2;0").due("show(2)", 0).rule("b<0:2;0").due("show(2)", 0).rule("k<0:2;0").due("show(2)", 0);
         // The second ahead alone counts, not this one and none farther off.
         EDGES.behind(NO_LINE + "line(3, 3, 20) line(5, 5, 20)").rule("l>0:2;0").row("show", 2, 53, 0, NONE, 0, 0, NONE);
         EDGES.behind("line(0, 59, 20) line(3, 3, 21)").rule("l>20:2;0").row("show", 8, 2, 2, 10, 0, 0, 0, 0, 0, 2, 0, 0);
@@ -165,6 +166,9 @@ public final class SeeingEdgesTest {
         EDGES.behind(NO_LINE + "line(57, 57, 40)").row("show", 2, 1, 0, NONE, 0, 0, NONE);
         EDGES.behind(NO_LINE + "line(0, 0, 40) pieces(2)").row("show", 2, 0, 0, 1, 0, 0, NONE);
         EDGES.behind(NO_LINE + "line(0, 0, 39)").row("show", 0, 0, 0, NONE, 0, 0, NONE);
+        // Each SHOW counts anew.
+        EDGES.behind("line(0, 59, 10) set(2, 1)").row("show", 8, 7, 0, 15).go("pieces(7)").row("show", 7, 6, 0, 13).go("pieces(8)").row("show", 8, 7, 0, 15)
+            .row("best", 8, 7, 2, 21).go("pieces(7)").row("best", 7, 6, 2, 19).go("line(0, 59, 0)").row("show", 0, 0, 0, NONE).row("best", 0, 0, 0, NONE);
     }
 
     private static void showEndsBehind59() {
@@ -252,6 +256,14 @@ public final class SeeingEdgesTest {
         EDGES.behind(NO_LINE).row("best", 0, 0, 0, NONE, NONE, NONE, NONE, NONE, NONE, NONE, NONE, NONE);
         EDGES.behind(NO_LINE + "line(59, 59, 1)").row("best", 0, 0, 0, NONE, 0, NONE, NONE, NONE, NONE, NONE, NONE, NONE);
         EDGES.behind(NO_LINE + "line(0, 0, 41)").row("best", 2, 58, 0, NONE, 0, 0, 0, NONE, NONE, NONE, NONE, NONE);
+        // Nothing is left of what was BEST ahead of a change.
+        for (int bits : new int[] {10, 40, 1000}) {
+            EDGES.behind("set(2, 1) line(0, 59, " + bits + ")").due("best(0)", 8).go(NO_LINE + "line(59, 59, 1)").row("best", 0, 0, 0, NONE, 0, NONE)
+                .go(NO_LINE).row("best", 0, 0, 0, NONE, NONE, NONE);
+        }
+        EDGES.behind(NO_LINE + "line(59, 59, 40)").row("best", 1, 0, 0, NONE, 0, 0, NONE, NONE, NONE, NONE, NONE, NONE);
+        EDGES.behind(NO_LINE + "line(59, 59, 41)").row("best", 1, 0, 0, NONE, 0, 0, 0, NONE, NONE, NONE, NONE, NONE);
+        EDGES.behind(NO_LINE + "line(58, 58, 40) line(59, 59, 20)").row("best", 2, 0, 0, NONE, 0, 0, 0, NONE, NONE, NONE, NONE, NONE);
     }
 
     private static void bestEndsBehind59() {

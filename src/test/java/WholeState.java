@@ -10,7 +10,7 @@ final class WholeState {
     /** A story and what reads behind it stay within the 512 calls that the document allows an object. */
     static final int LONGEST_STORY = 250;
     /** The part with the bits of the LINE in seconds 0 to 11; the four behind it have the others. */
-    static final int FIRST_OF_LINE = 5;
+    static final int FIRST_OF_LINE = 8;
     private static final int MOST_CALLS = 512;
     private static final int[] HOURS = {0, 9, 10, 11, 499, 500, 501, 998, 999};
 
@@ -33,15 +33,16 @@ final class WholeState {
     }
 
     private static final Reader[] READERS = {
-        WholeState::dots, WholeState::cuts, WholeState::films, WholeState::ruleAtWork, WholeState::signs,
+        WholeState::told, WholeState::settings, WholeState::dots, WholeState::cuts, WholeState::film, WholeState::shows,
+        WholeState::ruleAtWork, WholeState::signs,
         (x, row) -> line(x, 0, row), (x, row) -> line(x, 12, row), (x, row) -> line(x, 24, row),
         (x, row) -> line(x, 36, row), (x, row) -> line(x, 48, row),
         WholeState::stores, WholeState::seen, WholeState::rightsByHours, WholeState::rightsByTimes,
-        WholeState::marksAndGroups, WholeState::tree, WholeState::treeByDelays};
+        WholeState::marks, WholeState::groups, WholeState::tree, WholeState::delays};
     private static final String[] NAMES = {
-        "DOTS and KEYS", "CUT", "settings and PIECES", "THE RULE", "the signs", "LINE 0 to 11", "LINE 12 to 23",
-        "LINE 24 to 35", "LINE 36 to 47", "LINE 48 to 59", "TOWNS", "SEEN", "RIGHTS by hours", "RIGHTS by times",
-        "MARKS and GROUPS", "NODES", "delays"};
+        "what is told", "settings", "DOTS and KEYS", "CUT", "PIECES and DOORS", "SHOW and BEST", "THE RULE", "the signs",
+        "LINE 0 to 11", "LINE 12 to 23", "LINE 24 to 35", "LINE 36 to 47", "LINE 48 to 59",
+        "TOWNS", "SEEN", "RIGHTS by hours", "RIGHTS by times", "MARKS", "GROUPS", "NODES", "delays"};
 
     private WholeState() {
     }
@@ -84,11 +85,15 @@ final class WholeState {
         }
     }
 
-    private static void films(FilmLines x, Row row) {
+    private static void told(FilmLines x, Row row) {
         for (int what = 0; what < 7; what++) row.add(x.told(what));
-        shows(x, row);
-        for (int what = 0; what < 18; what++) row.add(x.best(what));
+    }
+
+    private static void settings(FilmLines x, Row row) {
         for (int which = 0; which < 7; which++) row.add(x.set(which, 1));
+    }
+
+    private static void film(FilmLines x, Row row) {
         row.add(x.pieces(1));
         row.add(x.doors(0));
         for (int piece = 0; piece < 8; piece++)
@@ -97,14 +102,19 @@ final class WholeState {
 
     private static void shows(FilmLines x, Row row) {
         for (int what = 0; what < 18; what++) row.add(x.show(what));
+        for (int what = 0; what < 18; what++) row.add(x.best(what));
     }
 
+    /** What THE RULE picks, with all else that a SHOW leans on as it is here. */
     private static void ruleAtWork(FilmLines x, Row row) {
         x.pieces(8);
         x.doors(255);
+        x.set(2, 2);
+        for (int piece = 0; piece < 8; piece++)
+            for (int size = 0; size < 3; size++) x.bits(piece, size, 20 << size);
         for (int bits : new int[] {7, 23, 61, 90, 250}) {
             x.line(0, 59, bits);
-            shows(x, row);
+            for (int what = 0; what < 18; what++) row.add(x.show(what));
         }
     }
 
@@ -177,9 +187,12 @@ final class WholeState {
         for (int i = 0; i < 13; i++) row.add(x.right(0, 0, 0, 0, 1));
     }
 
-    private static void marksAndGroups(FilmLines x, Row row) {
+    private static void marks(FilmLines x, Row row) {
         for (int known = 1; known < 256; known *= 2) row.add(x.blame(known, known, 0));
         for (int seer = 0; seer < 8; seer++) row.add(x.mark(seer, 0));
+    }
+
+    private static void groups(FilmLines x, Row row) {
         for (int group = 0; group < 4; group++) {
             row.add(x.sum(group, 0));
             row.add(x.sum(group, 1));
@@ -189,17 +202,18 @@ final class WholeState {
 
     private static void tree(FilmLines x, Row row) {
         for (int what = 0; what < 20; what++) row.add(x.tree(what));
-        for (int node = 0; node < 10; node++) row.add(x.behind(node));
-        for (int node = 1; node < 10; node++) row.add(x.fall(node));
+        x.set(6, 2);
+        for (int node = 1; node < 10; node++) {
+            row.add(x.fall(node));
+            for (int other = node + 1; other < 10; other++) row.add(x.tree(10 + other));
+        }
     }
 
     /** By falls from the last NODE on: none is hung anew, so the delays alone are told. */
-    private static void treeByDelays(FilmLines x, Row row) {
+    private static void delays(FilmLines x, Row row) {
         for (int node = 9; node > 0; node--) {
             row.add(x.behind(node));
             row.add(x.fall(node));
         }
-        row.add(x.set(5, 0));
-        row.add(x.set(6, 1));
     }
 }
