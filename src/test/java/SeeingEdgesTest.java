@@ -31,6 +31,7 @@ public final class SeeingEdgesTest {
         bestNothing();
         bestEndsBehind59();
         bestWithoutTheRule();
+        bestOfAllRows();
         EDGES.end("SeeingEdgesTest");
     }
 
@@ -273,6 +274,24 @@ public final class SeeingEdgesTest {
         EDGES.behind(NO_LINE + "line(59, 59, 1000)").row("best", 1, 0, 2, NONE, 2, 0, 0, 0, 0, 0, 0, 0);
         EDGES.sentence(18, "3 the second in which the last one was seen (NONE)");
         EDGES.behind("line(0, 59, 1)").row("best", 3, 18, 0, NONE).go("pieces(3)").row("best", 3, 18, 0, 59);
+    }
+
+    /** Lines at which PIECES come late, early and in bursts, held against all rows, tried one by one. */
+    private static void bestOfAllRows() {
+        EDGES.sentence(18, "of all rows of SIZES that DOORS allow the SHOW with the most PIECES seen, then the fewest STILL seconds, then the greatest sum of SIZES seen");
+        int[][] lines = {{10, 10, 10}, {25, 25, 25}, {40, 9, 40}, {100, 0, 33}, {3, 90, 30}, {0, 55, 2}};
+        for (int[] line : lines) {
+            for (int start = 1; start <= 8; start++) {
+                PlainModel plain = new PlainModel();
+                plain.line(0, 3, line[0]);
+                plain.line(4, 7, line[1]);
+                plain.line(8, 59, line[2]);
+                plain.set(2, start);
+                plain.doors(255 & ~(1 << start));
+                EDGES.behind("line(0, 3, " + line[0] + ") line(4, 7, " + line[1] + ") line(8, 59, " + line[2] + ") set(2, " + start + ") "
+                    + "doors(" + plain.doors + ")").row("best", plain.bestShow());
+            }
+        }
     }
 
     private static void bestWithoutTheRule() {
